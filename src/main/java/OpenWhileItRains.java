@@ -150,11 +150,13 @@ public final class OpenWhileItRains {
         if (what < 0 || what > 3) {
             return BAD;
         }
-        int refusal = tourRefusal(rowAt(sheet));
-        if (refusal != 0) {
+        Row row = rowAt(sheet);
+        int refusal = tourRefusal(row);
+        if (row == null || refusal != 0) {
             return refusal;
         }
-        runTour(rowAt(sheet));
+        plan.useRain(market.rain);
+        plan.run(market, row.items, row.size);
         switch (what) {
             case 0: return plan.gain;
             case 1: return Integer.bitCount(plan.dealt);
@@ -164,11 +166,13 @@ public final class OpenWhileItRains {
     }
 
     public int deal(int sheet) {
-        int refusal = tourRefusal(rowAt(sheet));
-        if (refusal != 0) {
+        Row row = rowAt(sheet);
+        int refusal = tourRefusal(row);
+        if (row == null || refusal != 0) {
             return refusal;
         }
-        runTour(rowAt(sheet));
+        plan.useRain(market.rain);
+        plan.run(market, row.items, row.size);
         for (int b = 0; b < market.shaken.length; b++) {
             if (hasBit(plan.dealt, b)) {
                 market.shaken[b] = 1;
@@ -261,7 +265,7 @@ public final class OpenWhileItRains {
 
     public int drawn(int seed) {
         plan.draw(seed);
-        plan.runAll(market);
+        plan.run(market, plan.byNumbers, plan.lineUp(market));
         return plan.gain;
     }
 
@@ -272,7 +276,7 @@ public final class OpenWhileItRains {
         int above = 0;
         for (int i = 0; i < m; i++) {
             plan.draw(seed + i);
-            plan.runAll(market);
+            plan.run(market, plan.byNumbers, plan.lineUp(market));
             above += plan.gain >= k ? 1 : 0;
         }
         int common = commonDivisor(above, m);
@@ -431,13 +435,6 @@ public final class OpenWhileItRains {
             came |= 1 << b;
         }
         return 0;
-    }
-
-    private void runTour(Row row) {
-        if (row != null) {
-            plan.useRain(market.rain);
-            plan.run(market, row.items, row.size);
-        }
     }
 
     private boolean canTell(int what) {
@@ -686,6 +683,7 @@ public final class OpenWhileItRains {
         final int[] names = new int[NAMES];
         int kind;
         Text rule;
+        private int street;
 
         void regard(Market market, int bargain, int done) {
             if (market == null) {
@@ -693,9 +691,10 @@ public final class OpenWhileItRains {
             }
             kind = at(market.kinds, bargain);
             rule = market.rule;
+            street = at(market.streets, bargain);
             put(names, NUMBER_NAME, at(market.numbers, bargain));
             put(names, DONE_NAME, done);
-            put(names, STREET_NAME, at(market.streets, bargain));
+            put(names, STREET_NAME, street);
             put(names, WEST_NAME, market.west);
         }
 
@@ -769,7 +768,8 @@ public final class OpenWhileItRains {
         }
 
         private int rainIn(int[] rain, int hour) {
-            return hour < 0 || hour >= HOURS ? 0 : at(rain, at(names, STREET_NAME) * HOURS + hour);
+            int place = street * HOURS + hour;
+            return rain != null && hour >= 0 && hour < HOURS && place >= 0 && place < rain.length ? rain[place] : 0;
         }
     }
 
@@ -779,7 +779,7 @@ public final class OpenWhileItRains {
 
         private final Case one = new Case();
         private final int[] rain = new int[STREETS * HOURS];
-        private final int[] byNumbers = new int[MOST_BARGAINS];
+        final int[] byNumbers = new int[MOST_BARGAINS];
         // how a tour went
         int gain;
         int dealt;
@@ -835,7 +835,8 @@ public final class OpenWhileItRains {
             }
         }
 
-        void runAll(Market market) {
+        /** Puts all that aren't SHAKEN on in a row by their numbers: how many. */
+        int lineUp(Market market) {
             int all = market == null ? 0 : market.unshaken();
             int n = 0;
             for (int b = 0; b < MOST_BARGAINS; b++) {
@@ -844,10 +845,10 @@ public final class OpenWhileItRains {
                     n++;
                 }
             }
-            run(market, byNumbers, n);
+            return n;
         }
 
-        /** Makes ready for seeking in the true rain. */
+        /** Makes it ready for seeking in the true rain. */
         void prepare(Market market) {
             if (market == null) {
                 return;
@@ -1160,22 +1161,20 @@ public final class OpenWhileItRains {
 
         private int wordNumber(int place, int n) {
             for (int w = 0; w < WORDS.length() / WORD_ROOM; w++) {
-                if (n <= WORD_ROOM && isWord(w, place, n)) {
+                int alike = 0;
+                for (int i = 0; i < WORD_ROOM; i++) {
+                    int letter = i < n ? byteAt(place + i) : ' ';
+                    alike += wordLetter(w * WORD_ROOM + i) == letter ? 1 : 0;
+                }
+                if (alike == WORD_ROOM && n <= WORD_ROOM) {
                     return w;
                 }
             }
             return NONE;
         }
 
-        private boolean isWord(int word, int place, int n) {
-            for (int i = 0; i < WORD_ROOM; i++) {
-                int there = word * WORD_ROOM + i;
-                int letter = i < n ? byteAt(place + i) : ' ';
-                if (there < 0 || there >= WORDS.length() || WORDS.charAt(there) != letter) {
-                    return false;
-                }
-            }
-            return true;
+        private static int wordLetter(int i) {
+            return i >= 0 && i < WORDS.length() ? WORDS.charAt(i) : NONE;
         }
 
         private void addToken(int token, int place, int meaning) {

@@ -155,6 +155,18 @@ public final class RainTest {
         due.is("1 less than none is one", x.asks(1, 0, 1), 1);
         x.set(2, 3, 9);
         due.is("9 modulo 3", x.asks(3, 4, 1), 3);
+        Due.rule(x, "needs 1; takes 30; value 1;");
+        x.set(2, 3, 0);
+        asked(x, 1, 0, 24, 23, 24, 23, 24, 1);
+        Due.rule(x, "needs 30; takes 0-1; value 1;");
+        asked(x, 0, 0, 9, 4, 9, 4, 9, 1);
+        // the bounds are put on behind all: 1 less than none, and 2 more, is 1
+        x.set(2, 3, 2);
+        asked(x, 1, 0, 1, 1, 1, 1, 1, 1);
+        Due.rule(x, "needs 0-1; takes 1; value 1;");
+        x.set(2, 4, 3);
+        asked(x, 0, 0, 1, 1, 2, 1, 3, 1);
+        asked(x, 1, 0, 1, 1, 2, 2, 2, 1);
     }
 
     private static void worthByKind() {

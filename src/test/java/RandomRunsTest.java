@@ -19,7 +19,7 @@ public final class RandomRunsTest {
     }
 
     public static void main(String[] args) {
-        int runs = args.length > 0 ? Integer.parseInt(args[0]) : 150;
+        int runs = args.length > 0 ? Integer.parseInt(args[0]) : 400;
         int wrong = 0;
         for (int run = 0; run < runs; run++) {
             wrong += new RandomRunsTest(run).wrongOnes();

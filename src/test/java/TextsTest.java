@@ -121,6 +121,21 @@ public final class TextsTest {
         fault("needs numbers" + TAIL, 6);
         fault("needs streetss" + TAIL, 6);
         fault("needs o" + TAIL, 6);
+        String[] noWords = {"xain", "raix", "rai", "hous", "xour", "numbex", "dome", "streex", "wes", "zest", "xeeds",
+            "rainz", "zrain", "arain", "numberr", "xalue", "xr", "oz", "xnd", "nod", "a", "z", "streetnumber"};
+        for (String word : noWords) {
+            fault("needs 1+" + word + TAIL, 8);
+            fault("needs " + word + " 1" + TAIL, 6);
+        }
+        for (int c = 0; c < 256; c++) {
+            boolean stands = c == ' ' || c == '\n' || c >= '0' && c <= '9';
+            if (stands) {
+                read("needs 1" + (char) c + TAIL);
+            } else {
+                // a sign may stand there, but what comes behind it then can't
+                fault("needs 1 " + (char) c + TAIL, "*+-<=;".indexOf(c) >= 0 ? 9 : 8);
+            }
+        }
         fault("needs 2\t" + TAIL, 7);
         fault("needs 2/2" + TAIL, 7);
         fault("needs 2,2" + TAIL, 7);

@@ -152,6 +152,12 @@ public final class ToursTest {
         }
         Due.rule(six, "needs 9; takes 1; value number*(6-done);");
         bests(six, 654321, 36 + 25 + 16 + 9 + 4 + 1, -1);
+        // the last HOUR but one is not the last
+        Due.rule(six, "needs 1; takes 1; value number;");
+        Due.rain(six, 0, "000000000000000000000011");
+        bests(six, 56, 6 + 5, 0);
+        Due.rain(six, 0, "999999999999999999999999");
+        six.force(1);
         six.set(2, 0, 0);
         // what gains nothing stands behind, and the order without it is looked at ahead
         bests(six, 65432, 36 + 25 + 16 + 9 + 4, 0);
@@ -326,6 +332,9 @@ public final class ToursTest {
         for (int[] b : bad) {
             due.is("sky", x.sky(b[0], b[1]), -2);
         }
+        Due.rain(x, 0, "000010001000000000000001");
+        due.is("a shower of one HOUR", x.sky(0, 0), 1);
+        due.is("the first of them", x.sky(0, 1), 4);
         Due.rain(x, 0, DRY);
         due.is("always shut", x.sky(0, 4), (1 << 24) - 1);
     }

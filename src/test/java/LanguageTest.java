@@ -17,7 +17,9 @@ public final class LanguageTest {
 
     public static void main(String[] args) throws IOException {
         String source = Files.readString(SOURCE);
-        face(Files.readString(DOCUMENT));
+        String document = Files.readString(DOCUMENT);
+        face(document);
+        headings(document, source);
         members();
         words(bare(source));
         methods(source);
@@ -48,6 +50,26 @@ public final class LanguageTest {
         due.is("constructors", OpenWhileItRains.class.getDeclaredConstructors().length, 1);
         due.is("the constructor is public",
             OpenWhileItRains.class.getDeclaredConstructors()[0].getModifiers(), Modifier.PUBLIC);
+    }
+
+    /** Ahead of the calls that stand together the class says what the document says of the interface. */
+    private static void headings(String document, String source) {
+        Matcher line = Pattern.compile("(?m)^Ahead of the calls `(\\w+)`.*`(\\w+)` the interface says: (---- .*)\\.$").matcher(document);
+        int n = 0;
+        while (line.find()) {
+            n++;
+            int heading = source.indexOf("    // " + line.group(3) + "\n");
+            int behind = source.indexOf("    // ----", heading + 1);
+            int first = placeOf(source, line.group(1));
+            int last = placeOf(source, line.group(2));
+            boolean between = heading >= 0 && heading < first && first < last && last < behind;
+            due.is("\"" + line.group(3) + "\" stands ahead of its calls", between ? 1 : 0, 1);
+        }
+        due.is("headings of the document", n, 6);
+    }
+
+    private static int placeOf(String source, String call) {
+        return Math.max(source.indexOf("    public int " + call + "("), source.indexOf("    public long " + call + "("));
     }
 
     private static void members() {

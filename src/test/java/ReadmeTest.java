@@ -13,6 +13,7 @@ import java.util.regex.Pattern;
 public final class ReadmeTest {
     private static final Due due = new Due();
     private static final Path PAGE = Path.of("README.md");
+    private static final Path SOURCE = Path.of("src/main/java/OpenWhileItRains.java");
     private static final String BUILT = System.getProperty("java.class.path");
 
     /** A call, perhaps kept under a name, and behind it "// the answer" or "// the answer: what it tells". */
@@ -25,6 +26,7 @@ public final class ReadmeTest {
         run(useOf(page, shown));
         due.is("calls of the face that are shown: " + shown, shown.equals(face()) ? 1 : 0, 1);
         numbers(page);
+        imports(page);
         tests(page);
         due.end();
     }
@@ -83,6 +85,13 @@ public final class ReadmeTest {
         says(page, "`FULL` (" + OpenWhileItRains.FULL + ")");
         says(page, "`NO` (" + OpenWhileItRains.NO + ")");
         says(page, "at most " + Run.MOST_CALLS + " calls");
+    }
+
+    private static void imports(String page) throws IOException {
+        Matcher imported = Pattern.compile("(?m)^import (.*);$").matcher(Files.readString(SOURCE));
+        while (imported.find()) {
+            says(page, "it imports `" + imported.group(1) + "` and nothing");
+        }
     }
 
     private static void says(String page, String words) {
